@@ -837,7 +837,7 @@ public final class BerthAges {
         /** Ages, and of each ship the others (bits, in or not) that are ahead of her. */
         private void settle() {
             for (int i = 0; i < fleet.ships; i++) {
-                ages[i] = ageIn(i, year);
+                ages[i] = ageAs(i, fleet.kind[i], year);
             }
             for (int i = 0; i < fleet.ships; i++) {
                 ahead[i] = 0;
@@ -876,7 +876,8 @@ public final class BerthAges {
                     settle();
                     return ages[i];
                 case TIDE:
-                    return passTide();
+                    left = fleet.hoursOfTide;
+                    return runAground(tooDeep());
                 default:
                     year++;
                     settle();
@@ -892,12 +893,10 @@ public final class BerthAges {
             return others;
         }
 
-        private int passTide() {
-            int bits = tooDeep();
+        private int runAground(int bits) {
             for (int i = 0; i < fleet.ships; i++) {
                 aground[i] += bits >> i & 1;
             }
-            left = fleet.hoursOfTide;
             return bits;
         }
 

@@ -16,7 +16,7 @@ public final class BerthAges {
     private static final int MOST_SHIPS = 6, MOST_DEEDS = 40, MOST_TURNS = 5, MOST_LOTS = 20;
     private static final int CUP = 5, MOST_TEA = 20, MOST_MORE_TEA = 40;
     private static final int LAST_YEAR = 999, LAST_BUILT = 99, YEARS_ON = 99, GREATEST_AGE = 2000;
-    private static final int SHALLOWEST = 2, OF_TWELVE = 12, DUEL_MORE = 100;
+    private static final int SHALLOWEST = 2, OF_TWELVE = 12, DUEL_MORE = 100, PUT_MORE = 1000;
     private static final int SHIP = 0, BELL = 1, PRIZE = 2, RAFT = 3, FORGED = 4, GHOST = 5, KINDS = 6;
     // By kind: s, b, p, r, f, g; and the kind that one is, too.
     private static final int[] LETTERS = {115, 98, 112, 114, 102, 103};
@@ -48,33 +48,28 @@ public final class BerthAges {
     }
 
     public int lay(int r, int i, int v) {
-        int before = at(r, i);
-        if (before == 1) {
-            rows.set(r, i, v);
+        int refusal = refusalOfPlace(rows, r, i);
+        if (refusal != 0) {
+            return refusal;
         }
-        return before;
+        told = rows.get(r, i, 0);
+        rows.set(r, i, v);
+        return 1;
     }
 
     public int at(int r, int i) {
-        if (!rows.isNumber(r)) {
-            return BAD;
-        }
-        if (!rows.isThere(r)) {
-            return refuse(NOTHING);
-        }
-        if (!rows.isPlace(r, i)) {
-            return refuse(BEYOND);
+        int refusal = refusalOfPlace(rows, r, i);
+        if (refusal != 0) {
+            return refusal;
         }
         told = rows.get(r, i, 0);
         return 1;
     }
 
     public int tear(int r) {
-        if (!rows.isNumber(r)) {
-            return BAD;
-        }
-        if (!rows.isThere(r)) {
-            return refuse(NOTHING);
+        int refusal = refusalOfSheet(rows, r);
+        if (refusal != 0) {
+            return refusal;
         }
         rows.drop(r);
         return 1;
@@ -98,11 +93,9 @@ public final class BerthAges {
     }
 
     public int mean(int r) {
-        if (!rows.isNumber(r)) {
-            return BAD;
-        }
-        if (!rows.isThere(r)) {
-            return refuse(NOTHING);
+        int refusal = refusalOfSheet(rows, r);
+        if (refusal != 0) {
+            return refusal;
         }
         int size = rows.sizes[r];
         if (size <= 0) {
@@ -121,28 +114,18 @@ public final class BerthAges {
     }
 
     public int put(int t, int i, int v) {
-        if (!texts.isNumber(t)) {
-            return BAD;
-        }
-        if (!texts.isThere(t)) {
-            return refuse(NOTHING);
-        }
-        if (!texts.isPlace(t, i)) {
-            return refuse(BEYOND);
+        int refusal = refusalOfPlace(texts, t, i);
+        if (refusal != 0) {
+            return refusal;
         }
         int before = texts.get(t, i, 0);
         texts.set(t, i, (byte) v);
-        return before + 1000;
+        return before + PUT_MORE;
     }
 
     public int fault(int t) {
-        if (!texts.isNumber(t)) {
-            return BAD;
-        }
-        if (!texts.isThere(t)) {
-            return refuse(NOTHING);
-        }
-        return proof.read(texts.places[t], texts.sizes[t]);
+        int refusal = refusalOfSheet(texts, t);
+        return refusal != 0 ? refusal : proof.read(texts.places[t], texts.sizes[t]);
     }
 
     public int harbour(int t) {
@@ -240,11 +223,9 @@ public final class BerthAges {
     }
 
     public int on(int k) {
-        if (!kept.isNumber(k)) {
-            return BAD;
-        }
-        if (!kept.isThere(k)) {
-            return refuse(NOTHING);
+        int refusal = refusalOfSheet(kept, k);
+        if (refusal != 0) {
+            return refusal;
         }
         port.replay(kept.places[k], kept.sizes[k]);
         return port.done;
@@ -515,6 +496,23 @@ public final class BerthAges {
         return FINDING;
     }
 
+    /** Why there is no such sheet; 0 if there is. */
+    private int refusalOfSheet(Sheets sheets, int s) {
+        if (!sheets.isNumber(s)) {
+            return BAD;
+        }
+        return sheets.isThere(s) ? 0 : refuse(NOTHING);
+    }
+
+    /** Why there is no such place of a sheet; 0 if there is. */
+    private int refusalOfPlace(Sheets sheets, int s, int i) {
+        int refusal = refusalOfSheet(sheets, s);
+        if (refusal != 0) {
+            return refusal;
+        }
+        return sheets.isPlace(s, i) ? 0 : refuse(BEYOND);
+    }
+
     private int laidOut(Sheets sheets, int s, int n, int v) {
         if (!sheets.isNumber(s) || n > sheets.most) {
             return BAD;
@@ -568,11 +566,12 @@ public final class BerthAges {
 
     /** Why a ship and a row of years and ages are not as told; 0 if they are. */
     private int refusalOfPairs(int i, int r) {
-        if (!port.isShip(i) || !rows.isNumber(r)) {
+        if (!port.isShip(i)) {
             return BAD;
         }
-        if (!rows.isThere(r)) {
-            return refuse(NOTHING);
+        int refusal = refusalOfSheet(rows, r);
+        if (refusal != 0) {
+            return refusal;
         }
         int size = rows.sizes[r];
         if (size % 2 != 0) {
@@ -849,7 +848,10 @@ public final class BerthAges {
             }
         }
 
-        /** All state comes from the deeds, so doing the first n anew leads back to it. */
+        /**
+         * All state comes from the deeds, so doing the first n of them anew leads back to it. The log may be the
+         * harbour's own: each deed is written again where it was read.
+         */
         void replay(int[] log, int n) {
             begin();
             for (int d = 0; d < n && d < log.length; d++) {

@@ -36,6 +36,16 @@ public final class KindsTest {
         due.is("with TEA", x.kinds(0, 0), SHIP);
         due.row(0, 50, 20);
         due.is("a prize's TEA is whole", x.kinds(0, 0), PRIZE);
+        int[] full = new int[40];
+        for (int p = 0; p < 20; p++) {
+            full[2 * p] = 200 + p;
+            full[2 * p + 1] = 185 + p;
+        }
+        due.row(0, full);
+        due.is("twenty pairs", x.kinds(0, 0), SHIP | RAFT);
+        full[39]++;
+        due.row(0, full);
+        due.is("the last pair counts", x.kinds(0, 0), 0);
         due.row(0, 999, 2000);
         due.is("the greatest numbers", x.kinds(0, 0), 0);
     }

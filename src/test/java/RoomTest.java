@@ -9,19 +9,19 @@ public final class RoomTest {
         com.sun.management.ThreadMXBean threads = (com.sun.management.ThreadMXBean) ManagementFactory.getThreadMXBean();
         long id = Thread.currentThread().getId();
         BerthAges x = new BerthAges();
-        every(x);
-        long before = threads.getThreadAllocatedBytes(id);
-        threads.getThreadAllocatedBytes(id);
-        long own = threads.getThreadAllocatedBytes(id) - before;
-        before = threads.getThreadAllocatedBytes(id);
-        BerthAges made = new BerthAges();
-        long ofObject = threads.getThreadAllocatedBytes(id) - before;
-        before = threads.getThreadAllocatedBytes(id);
-        every(x);
-        long ofCalls = threads.getThreadAllocatedBytes(id) - before;
-        due.is("a new object takes at most 8 KiB, not " + ofObject, ofObject <= 8192 + own ? 1 : 0, 1);
-        due.is("all calls together make nothing, not " + ofCalls, ofCalls <= own ? 1 : 0, 1);
-        due.is("made", made.count(0), 0);
+        long ofObject = Long.MAX_VALUE;
+        long ofCalls = Long.MAX_VALUE;
+        // The least of several readings: the machine's own work may fall into one of them.
+        for (int reading = 0; reading < 5; reading++) {
+            long before = threads.getThreadAllocatedBytes(id);
+            every(x);
+            long between = threads.getThreadAllocatedBytes(id);
+            x = new BerthAges();
+            ofCalls = Math.min(ofCalls, between - before);
+            ofObject = Math.min(ofObject, threads.getThreadAllocatedBytes(id) - between);
+        }
+        due.is("a new object takes at most 8 KiB, not " + ofObject, ofObject <= 8192 ? 1 : 0, 1);
+        due.is("bytes that all calls together make", ofCalls, 0);
         due.end();
     }
 

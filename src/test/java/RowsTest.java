@@ -111,6 +111,11 @@ public final class RowsTest {
         due.tells("mean of the greatest", x.mean(0), Integer.MAX_VALUE);
         due.row(0, Integer.MIN_VALUE, Integer.MIN_VALUE);
         due.tells("mean of the least", x.mean(0), Integer.MIN_VALUE);
+        due.row(3, new int[40]);
+        x.lay(3, 39, 80);
+        due.tells("mean of forty", x.mean(3), 2);
+        due.row(0, Integer.MIN_VALUE);
+        x.mean(0);
         due.row(1);
         due.finds("mean of no ints", () -> x.mean(1), NOUGHT);
         due.finds("mean of no row", () -> x.mean(2), NOTHING);

@@ -60,7 +60,14 @@ public final class TextsTest {
         faultOf(due, "    ", 4);
         faultOf(due, "  h", 3);
         faultOf(due, "  H001", 2);
+        faultOf(due, "s00000", 0);
+        faultOf(due, " b12345 s00000", 1);
+        faultOf(due, "001s00000", 0);
         faultOf(due, "h001", 4);
+        faultOf(due, " ".repeat(50) + "h001s00000", BerthAges.NONE);
+        faultOf(due, "h001" + " ".repeat(50) + "s00000", BerthAges.NONE);
+        faultOf(due, "h001s00000" + " ".repeat(50), BerthAges.NONE);
+        faultOf(due, " ".repeat(60), 60);
         faultOf(due, "h001   ", 7);
         faultOf(due, "h000s00000", 3);
         faultOf(due, "h0 1s00000", 2);

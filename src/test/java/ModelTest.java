@@ -2,7 +2,8 @@ import java.util.Random;
 
 /** All promises: the class and the plain model of the document answer long runs of calls alike. */
 public final class ModelTest {
-    private static final int RUNS = 1500, CALLS = 400;
+    // An object is used for at most 512 calls; the dearest step, a text of 60 bytes and all that is told, takes 69.
+    private static final int RUNS = 6000, CALLS = 512, DEAREST_STEP = 69;
     private static final int[] EDGES = {-1, 0, 1, 5, 6, 9, 12, 13, 20, 21, 40, 41, 60, 61, 99, 100, 999, 1000,
         2000, 2001, Integer.MAX_VALUE, Integer.MIN_VALUE, 2147483646};
 
@@ -11,6 +12,7 @@ public final class ModelTest {
     private final Model m = new Model();
     private String call = "";
     private long got, want;
+    private int spent = 0;
 
     private ModelTest(long seed) {
         lots = new Random(seed);
@@ -20,7 +22,7 @@ public final class ModelTest {
         Due due = new Due("ModelTest");
         for (int run = 0; run < RUNS; run++) {
             ModelTest one = new ModelTest(run);
-            for (int n = 0; n < CALLS && one.step(due, run, n); n++) {
+            for (int n = 0; one.spent + DEAREST_STEP <= CALLS && one.step(due, run, n); n++) {
                 // Each step compares; the first difference ends the run, as all behind it may follow from it.
             }
         }
@@ -30,14 +32,17 @@ public final class ModelTest {
     private boolean step(Due due, int run, int n) {
         if (n == 0 || lots.nextInt(120) == 0) {
             write(lots.nextInt(8) != 0);
-            call = "harbour(0)";
-            got = x.harbour(0);
-            want = m.harbour(0);
+            told("harbour(0)", x.harbour(0), m.harbour(0));
         } else {
             next(lots.nextInt(60));
         }
-        due.is("run " + run + " call " + n + " " + call, got, want);
-        return got == want && same(due, run, n, "asked", x.asked(), m.asked())
+        due.is("run " + run + " step " + n + " " + call, got, want);
+        // All that is told behind every other step alone, so that a run has more of the other calls.
+        return got == want && (lots.nextBoolean() || sameTold(due, run, n));
+    }
+
+    private boolean sameTold(Due due, int run, int n) {
+        return same(due, run, n, "asked", x.asked(), m.asked())
                 && same(due, run, n, "upper", x.upper(), m.upper())
                 && same(due, run, n, "lower", x.lower(), m.lower())
                 && same(due, run, n, "finding", x.finding(), m.finding())
@@ -45,7 +50,8 @@ public final class ModelTest {
     }
 
     private boolean same(Due due, int run, int n, String what, long gotNow, long wantNow) {
-        due.is("run " + run + " call " + n + " " + call + " then " + what, gotNow, wantNow);
+        spent++;
+        due.is("run " + run + " step " + n + " " + call + " then " + what, gotNow, wantNow);
         return gotNow == wantNow;
     }
 
@@ -91,15 +97,15 @@ public final class ModelTest {
             x.put(0, i, s.charAt(i));
             m.put(0, i, s.charAt(i));
         }
-        call = "fault(0)";
-        got = x.fault(0);
-        want = m.fault(0);
+        spent += 1 + size;
+        told("fault(0)", x.fault(0), m.fault(0));
         if (got != want) {
             throw new IllegalStateException("fault of '" + s + "': " + got + ", due is " + want);
         }
     }
 
     private void told(String name, long gotNow, long wantNow) {
+        spent++;
         call = name;
         got = gotNow;
         want = wantNow;
@@ -160,6 +166,7 @@ public final class ModelTest {
     /** A row of ships that are in, or outside, in some order; or of years and ages. */
     private void fillRow(int r, boolean ships) {
         int size = ships ? below(5) : 2 * below(3);
+        spent += 1 + 2 * size;
         x.row(r, size);
         m.row(r, size);
         int one = ship();

@@ -47,6 +47,7 @@ public final class TextsTest {
     }
 
     private static void faultOf(Due due, String signs, int want) {
+        due.anew();
         due.write(1, signs);
         due.is("fault of '" + signs + "'", due.x.fault(1), want);
     }

@@ -67,11 +67,14 @@ public final class ChanceEdgesTest {
         comeAll(1);
         due.is("both IN, no turn", x().duel(0), 99);
         due.is("one turn: 0 goes out", x().duel(1), 100);
-        // Three even ones behind an odd one: 1 + 2 + 3 less; each turn lets one of them go.
+        // Three even ones lie behind an odd one: 1 + 2 + 3 less. By each turn of hers the first owner lets one go
+        // out; the second does best to do nothing: 1 going out lets all be nearer, 3 coming lies farther than all.
         due.harbour("h509 s20000 s10000 s30000 s99000 s40000");
         comeAll(0, 1, 2, 4);
-        due.is("0, 2, 4 at 1, 2, 3", x().duel(0), 94);
-        due.is("the one at 3 goes out, or another, and the others are nearer", x().duel(1), 97);
+        int[] byTurns = {94, 97, 97, 99, 99, 100};
+        for (int n = 0; n <= 5; n++) {
+            due.is(n + " turns in all", x().duel(n), byTurns[n]);
+        }
     }
 
     private void duelAtItsEnds() {

@@ -20,6 +20,7 @@ public final class DeedEdgesTest {
         test.theFortiethDeed();
         test.refusedOnesAreNoDeeds();
         test.undoEachKind();
+        test.undoWithoutShips();
         test.undoToItsEnds();
         test.undoWithinLots();
         test.keepNoneAndForty();
@@ -310,6 +311,17 @@ public final class DeedEdgesTest {
         due.is(name + " undone: all as it was", x().digest(), before);
         due.is(name + " undone: PAID as it was", x().mark(2, 5), paid);
         due.is(name + " undone: DEEDS", x().count(2), 2);
+    }
+
+    private void undoWithoutShips() {
+        due.anew();
+        long before = x().digest();
+        due.is("none of none without SHIPS", x().undo(0), 0);
+        due.is("nothing changes", x().digest(), before);
+        due.write(1, "h507");
+        due.is("a FAULT", x().harbour(1), BerthAges.STATE);
+        x().undo(0);
+        counts("no YEAR, no hours by a HARBOUR that was refused", 0, 0, 0, 0, 0, 0, 0, 0, 0, 1, 0);
     }
 
     private void undoToItsEnds() {

@@ -25,6 +25,7 @@ public final class QuestionEdgesTest {
         test.whenInTheLastYears();
         test.builtAtBothEnds();
         test.builtOfAll();
+        test.builtByKind();
         test.leastTea();
         test.leastByKind();
         test.wrongPairs();
@@ -322,6 +323,28 @@ public final class QuestionEdgesTest {
         due.both("SHIP 3 at 3: 20 to 40, behind the like one of 20, AHEAD of that of 40", x().built(3, 3), 21, 20);
     }
 
+    private void builtByKind() {
+        // One of 49 years, a captain of 5, is IN.
+        due.harbour("h999 s50500 b50400 p50600 r50600 f50400 g50600");
+        comeAll(0);
+        due.both("a BELL: 30 OLD and 20 more", x().built(1, 0), 70, 0);
+        due.both("a BELL behind", x().built(1, 1), 30, 70);
+        due.both("a PRIZE: half of 98, AHEAD by the CAPTAIN", x().built(2, 0), 2, 0);
+        due.both("a RAFT by any", x().built(3, 0), 100, 0);
+        due.both("a FORGED one: 25 OLD and 25 more", x().built(4, 0), 75, 0);
+        due.both("a GHOST behind by any", x().built(5, 1), 100, 0);
+        due.is("a GHOST by none", x().built(5, 0), NONE);
+        x().pay(5);
+        due.both("who has PAID by any", x().built(5, 0), 100, 0);
+        x().tea(1);
+        for (int cup = 0; cup < 4; cup++) {
+            x().tea(2);
+        }
+        due.both("a BELL with 5 of TEA: 25 OLD", x().built(1, 0), 75, 0);
+        due.both("a PRIZE with 20 of TEA: half of 58", x().built(2, 0), 42, 0);
+        due.both("and behind", x().built(2, 1), 58, 42);
+    }
+
     private void leastTea() {
         due.harbour("h909 s00500 s40500 s39500 s41500 s40600");
         comeAll(0);
@@ -416,6 +439,10 @@ public final class QuestionEdgesTest {
         kindsBy("twenty pairs", SHIP | PRIZE | GHOST, forty);
         forty[38] = 21;
         kindsBy("twenty pairs, the last of another YEAR", PRIZE | GHOST, forty);
+        due.harbour("h509 s20000 s30000");
+        due.row(5, 50, 20);
+        due.is("another SHIP by another ROW", x().kinds(1, 5), SHIP);
+        due.is("the same ROW is of no KIND for the first", x().kinds(0, 5), 0);
     }
 
     private void testBy(String name, int years, int part, int... pairs) {
@@ -443,6 +470,12 @@ public final class QuestionEdgesTest {
         testBy("in 99 years the SHIP is 1", 99, 2, 0, 0);
         due.harbour("h009 s97000");
         testBy("in 98 years the SHIP is 1, in 99 she is 2, the PRIZE 1", 99, 1, 0, 0);
+        due.harbour("h009 s99000");
+        x().tea(0);
+        testBy("with TEA SHIP and PRIZE are 5 for 99 years, all others apart", 0, 2);
+        due.harbour("h009 s98000");
+        x().tea(0);
+        testBy("and 6 and 5 in just 99", 99, 1);
         due.harbour("h009 g99000");
         x().pay(0);
         testBy("RAFT and GHOST that has PAID", 0, 2, 0, 90);
